@@ -252,7 +252,7 @@ public final class InferReduce {
         int kind = types.kindOf(type);
         if (kind != BARE && kind != ARGUED) return false;
         int above = types.firstOf(type);
-        if (above == OBJECT || above >= cls) return false;
+        if (above == OBJECT || !types.isOfClassesBefore(type, cls)) return false;
         if (kind == BARE && classes.parametersOf(above) > 0) return false;
         if (types.kindOf(types.secondOf(type)) == WILD) return false;
         if (types.kindOf(types.thirdOf(type)) == WILD) return false;
@@ -349,6 +349,8 @@ public final class InferReduce {
         final int[] variables = new int[MOST_TYPES];
         // bit c: a parameter of class c is in it
         final long[] owners = new long[MOST_TYPES];
+        // bit c: it is of class c, or has a type of that in it
+        final long[] named = new long[MOST_TYPES];
         final int[] chainFirst = new int[CHAINS];
         final int[] chainNext = new int[MOST_TYPES];
         int size;
@@ -395,6 +397,11 @@ public final class InferReduce {
             return c < 0 ? owners[t] : owners[t] & ~(1L << c);
         }
 
+        /** Whether all classes that t is made of have lesser numbers than c. */
+        boolean isOfClassesBefore(int t, int c) {
+            return t >= 0 && t < size && c >= 0 && c < MOST_CLASSES && named[t] >> c == 0;
+        }
+
         int argumentOf(int t, int place) {
             if (t < 0 || t >= size) return NONE;
             return place == 0 ? second[t] : third[t];
@@ -424,6 +431,7 @@ public final class InferReduce {
             int deep = 1;
             int inside = k == VARIABLE ? 1 << a : 0;
             long owned = k == PARAMETER ? 1L << a : 0;
+            long names = k == BARE || k == ARGUED ? 1L << a : 0;
             for (int n = 0; n < 3; n++) {
                 int part = NONE;
                 if (n == 0 && (k == ARRAY || k == CAPTURE)) part = a;
@@ -433,6 +441,7 @@ public final class InferReduce {
                 if (deep <= depth[part]) deep = depth[part] + 1;
                 inside |= variables[part];
                 owned |= owners[part];
+                names |= named[part];
             }
             if (deep > MOST_DEPTH || size < 0 || size >= MOST_TYPES) return FULL;
             t = size;
@@ -443,6 +452,7 @@ public final class InferReduce {
             depth[t] = deep;
             variables[t] = inside;
             owners[t] = owned;
+            named[t] = names;
             chainNext[t] = chainFirst[chain];
             chainFirst[chain] = t;
             size++;

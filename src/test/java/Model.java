@@ -97,9 +97,15 @@ final class Model {
         return params.size() - 1;
     }
 
+    boolean allBefore(int t, int cls) {
+        if (kind(t) < 2 && a(t) >= cls) return false;
+        for (int p : parts(types.get(t))) if (!allBefore(p, cls)) return false;
+        return true;
+    }
+
     int parent(int cls, int type) {
         if (!isClass(cls) || cls < 9 || !isType(type) || kind(type) > 1) return OUTSIDE;
-        if (a(type) >= cls || a(type) == 0) return OUTSIDE;
+        if (a(type) == 0 || !allBefore(type, cls)) return OUTSIDE;
         if (kind(type) == 0 && params.get(a(type)) > 0) return OUTSIDE;
         if (kind(type) == 1) for (int p : parts(types.get(type))) if (kind(p) == 2) return OUTSIDE;
         if (!proper(type)) return OUTSIDE;

@@ -220,14 +220,23 @@ public final class RandomRunsTest {
         }
     }
 
-    private void tellLoop() {
-        int c = model.params.size() - 1;
-        for (int p = 9; p < c; p++) {
-            if (model.params.get(p) != 1) continue;
-            int own = model.params.get(c) == 0 ? made("plain", c) : build(2, c + 1, c, false);
-            int inner = made("of", p, made("wild", any(1, 2), own), 0);
+    /** Classes that hold one another within wildcards, so that formulas come deep within one another. */
+    private void tellChain() {
+        int p = made("declare", 1), from = model.params.size(), seldom = any(1, 6) * 12;
+        for (int n = any(2, 40); n > 0; n--) {
+            int c = made("declare", random.nextInt(seldom) == 0 ? 1 : 0);
+            if (c <= from) continue;
+            // now and then the class itself, which was not told before
+            int other = made("plain", random.nextInt(seldom) == 0 ? c : Math.max(from, c - random.nextInt(4) / 2 - 1));
+            int inner = made("of", p, made("wild", random.nextInt(seldom) == 0 ? 1 : 2, other), 0);
             made("parent", c, made("of", p, inner, 0));
         }
+        int last = model.params.size() - 1;
+        made("variable");
+        int end = random.nextInt(4) == 0 ? aVariable() : made("plain", last - random.nextInt(4));
+        call("formula", random.nextInt(2), made("plain", last), made("of", p, made("wild", 2, end), 0));
+        if (model.state == 2) seen[14]++;
+        if (random.nextBoolean()) call("clear");
     }
 
     private void tellClasses() {
@@ -295,7 +304,7 @@ public final class RandomRunsTest {
 
     private boolean guidedRun() {
         tellClasses();
-        if (random.nextInt(3) == 0) tellLoop();
+        if (random.nextInt(3) == 0) tellChain();
         if (random.nextInt(8) == 0) fill();
         for (int round = any(1, 6); round > 0; round--) {
             for (int v = narrow ? any(1, 12) : any(0, 5); v > 0; v--) made("variable");
@@ -364,7 +373,7 @@ public final class RandomRunsTest {
         System.out.println("formulas false " + seen[0] + ", full " + seen[1] + "; resolved " + seen[2] + ", false " + seen[3]
             + ", full " + seen[4] + "; unchecked " + seen[5] + "; long " + seen[6] + "; 500 types " + seen[7] + "; captures " + seen[8] + "; 200 bounds " + seen[9]
             + "; 20000 formulas " + seen[10] + "; captures of variables " + seen[11] + ", in bounds " + seen[12]
-            + "; wildcards in bounds " + seen[13]);
+            + "; wildcards in bounds " + seen[13] + "; formulas too deep " + seen[14]);
         Check.end();
     }
 }
