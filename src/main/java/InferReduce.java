@@ -256,8 +256,9 @@ public final class InferReduce {
         if (kind == BARE && classes.parametersOf(above) > 0) return false;
         if (types.kindOf(types.secondOf(type)) == WILD) return false;
         if (types.kindOf(types.thirdOf(type)) == WILD) return false;
-        // a variable in a parent would outlive clear(), and a foreign parameter would never be replaced
-        return types.isProper(type) && types.ownersIn(type, cls) == 0;
+        // neither can be told with a class, at whatever depth: they come of formulas and of other types
+        if (types.hasInIt(type, VARIABLE) || types.hasInIt(type, CAPTURE)) return false;
+        return types.ownersIn(type, cls) == 0;
     }
 
     private void takeState(int answer, int number) {
@@ -345,6 +346,8 @@ public final class InferReduce {
         final int[] second = new int[MOST_TYPES];
         final int[] third = new int[MOST_TYPES];
         final int[] depth = new int[MOST_TYPES];
+        // bit k: it is of kind k, or has a type of that in it
+        final int[] kinds = new int[MOST_TYPES];
         // bit v: variable v is in it
         final int[] variables = new int[MOST_TYPES];
         // bit c: a parameter of class c is in it
@@ -391,6 +394,11 @@ public final class InferReduce {
             return t >= 0 && t < size && variables[t] == 0;
         }
 
+        /** Whether t is of a kind, or has a type of that in it, however deep. */
+        boolean hasInIt(int t, int k) {
+            return t >= 0 && t < size && (kinds[t] >> k & 1) != 0;
+        }
+
         /** The classes but c whose parameters are in t, as bits. */
         long ownersIn(int t, int c) {
             if (t < 0 || t >= size) return 0;
@@ -429,6 +437,7 @@ public final class InferReduce {
                 t = chainNext[t];
             }
             int deep = 1;
+            int ofKinds = 1 << k;
             int inside = k == VARIABLE ? 1 << a : 0;
             long owned = k == PARAMETER ? 1L << a : 0;
             long names = k == BARE || k == ARGUED ? 1L << a : 0;
@@ -439,6 +448,7 @@ public final class InferReduce {
                 if (n == 2 && k == ARGUED) part = c;
                 if (part < 0 || part >= size) continue;
                 if (deep <= depth[part]) deep = depth[part] + 1;
+                ofKinds |= kinds[part];
                 inside |= variables[part];
                 owned |= owners[part];
                 names |= named[part];
@@ -450,6 +460,7 @@ public final class InferReduce {
             second[t] = b;
             third[t] = c;
             depth[t] = deep;
+            kinds[t] = ofKinds;
             variables[t] = inside;
             owners[t] = owned;
             named[t] = names;

@@ -63,7 +63,6 @@ final class Model {
 
     final List<Integer> depths = new ArrayList<>();
     final List<TreeSet<Integer>> vars = new ArrayList<>();
-    final List<TreeSet<Integer>> owners = new ArrayList<>();
     int depthAt(int t) { return depths.get(t); }
 
     int make(int kind, int a, int b, int c) {
@@ -72,12 +71,10 @@ final class Model {
         if (i >= 0) return i;
         if (types.size() == 500 || depth(t) > 20) throw new NoRoom();
         depths.add(depth(t));
-        TreeSet<Integer> v = new TreeSet<>(), o = new TreeSet<>();
+        TreeSet<Integer> v = new TreeSet<>();
         if (kind == 7) v.add(a);
-        if (kind == 3) o.add(a);
-        for (int p : parts(t)) { v.addAll(vars.get(p)); o.addAll(owners.get(p)); }
+        for (int p : parts(t)) v.addAll(vars.get(p));
         vars.add(v);
-        owners.add(o);
         types.add(t);
         return types.size() - 1;
     }
@@ -97,19 +94,23 @@ final class Model {
         return params.size() - 1;
     }
 
-    boolean allBefore(int t, int cls) {
-        if (kind(t) < 2 && a(t) >= cls) return false;
-        for (int p : parts(types.get(t))) if (!allBefore(p, cls)) return false;
+    /** Whether a type may be in a parent of a class, or be one, but for what the outermost alone must be. */
+    boolean tellable(int t, int cls) {
+        switch (kind(t)) {
+            case 0: case 1: if (a(t) >= cls) return false; break;
+            case 3: return a(t) == cls;
+            case 7: case 8: return false;
+            default: break;
+        }
+        for (int p : parts(types.get(t))) if (!tellable(p, cls)) return false;
         return true;
     }
 
     int parent(int cls, int type) {
         if (!isClass(cls) || cls < 9 || !isType(type) || kind(type) > 1) return OUTSIDE;
-        if (a(type) == 0 || !allBefore(type, cls)) return OUTSIDE;
+        if (a(type) == 0 || !tellable(type, cls)) return OUTSIDE;
         if (kind(type) == 0 && params.get(a(type)) > 0) return OUTSIDE;
         if (kind(type) == 1) for (int p : parts(types.get(type))) if (kind(p) == 2) return OUTSIDE;
-        if (!proper(type)) return OUTSIDE;
-        for (int o : owners.get(type)) if (o != cls) return OUTSIDE;
         if (parents.get(cls).size() == 3) return FULL;
         parents.get(cls).add(type);
         return parents.get(cls).size();

@@ -145,13 +145,14 @@ public final class PromiseTest {
         due("the box is above", x.plain(5), x.above(x.of(h, lateType, 0), 5));
         due("above through two", x.of(g, x.of(h, x.plain(0), 0), 0), x.above(lateType, g));
         parentsOfClassesBefore();
+        parentsWithCaptures();
     }
 
     /** All classes in a parent were told before, however deep they are within it. */
     private static void parentsOfClassesBefore() {
         InferReduce x = new InferReduce();
         int g = x.declare(1), pair = x.declare(2), before = x.declare(0), cls = x.declare(1), late = x.declare(1), last = x.declare(0);
-        int o = x.plain(0), own = x.parameter(cls, 0), first = x.plain(before), self = x.of(cls, own, 0), any = x.wild(0, 0);
+        int o = x.plain(0), own = x.parameter(cls, 0), first = x.plain(before), self = x.of(cls, own, 0);
         int[] notBefore = {x.plain(last), x.plain(late), x.plain(cls), self, x.of(late, o, 0), x.of(late, own, 0)};
         for (int t : notBefore) {
             due("as the parent: " + t, OUTSIDE, x.parent(cls, t));
@@ -163,11 +164,6 @@ public final class PromiseTest {
             due("a wildcard up to it: " + t, OUTSIDE, x.parent(cls, x.of(g, x.of(g, x.wild(1, t), 0), 0)));
             due("a wildcard down to it: " + t, OUTSIDE, x.parent(cls, x.of(g, x.of(g, x.wild(2, t), 0), 0)));
         }
-        x.parent(late, x.of(g, x.parameter(late, 0), 0));
-        int capture = x.type(x.above(x.of(late, any, 0), g), 2);
-        due("a capture", 8, x.type(capture, 0));
-        due("of a later class", OUTSIDE, x.parent(cls, x.of(g, capture, 0)));
-        due("of one before", 1, x.parent(last, x.of(g, capture, 0)));
         due("no parent came", NONE, x.above(x.plain(cls), g));
         due("nor another", NONE, x.above(x.plain(cls), pair));
         due("the class before it, a box, OBJECT", 1, x.parent(cls, x.of(pair, x.of(pair, first, x.plain(8)), x.array(o))));
@@ -175,7 +171,48 @@ public final class PromiseTest {
         due("RAW, but as an argument", 3, x.parent(cls, x.of(g, x.plain(pair), 0)));
         due("a full one still tells OUTSIDE first", OUTSIDE, x.parent(cls, x.of(g, x.plain(last), 0)));
         due("full", FULL, x.parent(cls, x.of(g, first, 0)));
-        due("what is late for one is before for another", 2, x.parent(last, x.of(g, x.of(late, x.of(cls, o, 0), 0), 0)));
+        due("what is late for one is before for another", 1, x.parent(last, x.of(g, x.of(late, x.of(cls, o, 0), 0), 0)));
+    }
+
+    /** A capture is no class that was told before, nor a parameter of the class, however deep it is within. */
+    private static void parentsWithCaptures() {
+        InferReduce x = new InferReduce();
+        int g = x.declare(1), pair = x.declare(2), h = x.declare(2), cls = x.declare(1), late = x.declare(1);
+        int o = x.plain(0), own = x.parameter(cls, 0), any = x.wild(0, 0);
+        due("h under pair", 1, x.parent(h, x.of(pair, x.parameter(h, 1), x.parameter(h, 0))));
+        due("late under g", 1, x.parent(late, x.of(g, x.parameter(late, 0), 0)));
+        int[] wildcards = {any, x.wild(1, o), x.wild(2, o), x.wild(1, own), x.wild(2, own), x.wild(1, x.of(g, any, 0))};
+        for (int w : wildcards) {
+            int first = x.above(x.of(h, o, w), pair), second = x.above(x.of(h, w, o), pair), both = x.above(x.of(h, w, w), pair);
+            int[] above = {first, second, both, x.above(x.of(late, w, 0), g)};
+            for (int t : above) noParent(x, "what is above, " + t, cls, t);
+            int[] captures = {x.type(first, 2), x.type(second, 3), x.type(both, 2), x.type(both, 3), x.type(above[3], 2)};
+            for (int c : captures) {
+                due("a capture", 8, x.type(c, 0));
+                noParent(x, "itself, " + c, cls, c);
+                noParent(x, "as argument, " + c, cls, x.of(g, c, 0));
+                noParent(x, "as first argument, " + c, cls, x.of(pair, c, own));
+                noParent(x, "as second argument, " + c, cls, x.of(pair, own, c));
+                noParent(x, "in an array, " + c, cls, x.of(g, x.array(c), 0));
+                noParent(x, "deeper, " + c, cls, x.of(pair, o, x.of(g, x.of(g, c, 0), 0)));
+                noParent(x, "a wildcard up to it, " + c, cls, x.of(g, x.of(g, x.wild(1, c), 0), 0));
+                noParent(x, "a wildcard down to it, " + c, cls, x.of(g, x.of(g, x.wild(2, x.array(c)), 0), 0));
+            }
+        }
+        int ownCapture = x.type(x.above(x.of(late, any, 0), g), 2);
+        noParent(x, "of a type of the class itself", late, x.of(g, ownCapture, 0));
+        due("the parents stay as they were", NONE, x.above(x.plain(cls), g));
+        due("nor is pair above", NONE, x.above(x.plain(cls), pair));
+        due("the type that captures came of", 1, x.parent(cls, x.of(g, x.of(h, own, x.of(g, o, 0)), 0)));
+        due("with wildcards in it, too", 2, x.parent(cls, x.of(pair, x.of(h, any, x.wild(1, o)), own)));
+        due("one more", 3, x.parent(cls, x.of(g, own, 0)));
+        noParent(x, "OUTSIDE is told first", cls, x.of(g, ownCapture, 0));
+        due("full", FULL, x.parent(cls, x.of(g, own, 0)));
+    }
+
+    private static void noParent(InferReduce x, String what, int cls, int type) {
+        due(what + ": is a type", 1, type >= 0 ? 1 : 0);
+        due(what + ": is no parent", OUTSIDE, x.parent(cls, type));
     }
 
     private static void promise4() {

@@ -253,7 +253,23 @@ public final class RandomRunsTest {
         }
     }
 
+    /** A capture, if there is one above a type with wildcards of a class that is below a number; else NONE. */
+    private int aCapture(int below) {
+        int p = any(9, below - 1), n = model.params.get(p);
+        if (n == 0) return NONE;
+        int t = made("of", p, made("wild", random.nextInt(3), made("plain", 1)), n == 2 ? made("wild", 0) : 0);
+        for (int g = 9; g < p; g++) {
+            if (!model.hasAbove(p, g) || !call("above", t, g)) continue;
+            int found = model.above(t, g);
+            if (model.isType(found) && model.kind(found) == 1 && model.kind(model.b(found)) == 8) return model.b(found);
+        }
+        return NONE;
+    }
+
     private int parentArgument(int below, int owner) {
+        int capture = random.nextInt(15) == 0 ? aCapture(below) : NONE;
+        if (capture >= 0) seen[15]++;
+        if (capture >= 0) return random.nextBoolean() ? capture : made("array", capture);
         return random.nextInt(15) == 0 ? argument(2, below, owner, true) : build(random.nextInt(3), below, owner, false);
     }
 
@@ -373,7 +389,7 @@ public final class RandomRunsTest {
         System.out.println("formulas false " + seen[0] + ", full " + seen[1] + "; resolved " + seen[2] + ", false " + seen[3]
             + ", full " + seen[4] + "; unchecked " + seen[5] + "; long " + seen[6] + "; 500 types " + seen[7] + "; captures " + seen[8] + "; 200 bounds " + seen[9]
             + "; 20000 formulas " + seen[10] + "; captures of variables " + seen[11] + ", in bounds " + seen[12]
-            + "; wildcards in bounds " + seen[13] + "; formulas too deep " + seen[14]);
+            + "; wildcards in bounds " + seen[13] + "; formulas too deep " + seen[14] + "; captures for parents " + seen[15]);
         Check.end();
     }
 }
