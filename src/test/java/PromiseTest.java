@@ -1,80 +1,5 @@
 /** Each promise by itself: ordinary inputs, the edges that the document names, wrong inputs. */
-public final class PromiseTest {
-    private static final int NONE = -1, OUTSIDE = -2, FULL = -3;
-    private static final int COMPATIBLE = 0, SUB = 1, CONTAINED = 2, EQUAL = 3;
-    private static final int IS = 0, BELOW = 1, ABOVE = 2;
-    private static final int FINE = 0, CAME_FALSE = 1, CAME_FULL = 2;
-    private static final int LOW = Integer.MIN_VALUE, HIGH = Integer.MAX_VALUE;
-
-    // the classes of a world: Seq<T>; List<T> under Seq<T>; Map<K, V> under Seq<K>; Str; Sub under Str; Num;
-    // Strs under List<Str>
-    private static final int SEQ = 9, LIST = 10, MAP = 11, STR = 12, SUBSTR = 13, NUM = 14, STRS = 15;
-
-    private final InferReduce x = new InferReduce();
-    private int object, str, sub, num, strs, a, b, c;
-
-    private static void due(String call, long want, long got) {
-        Check.due(call, want, got);
-    }
-
-    /** A world whose types' numbers are not looked at. */
-    private static PromiseTest world() {
-        PromiseTest w = new PromiseTest();
-        InferReduce x = w.x;
-        int[] parameters = {1, 1, 2, 0, 0, 0, 0};
-        for (int n : parameters) x.declare(n);
-        w.object = x.plain(0);
-        w.str = x.plain(STR);
-        w.sub = x.plain(SUBSTR);
-        w.num = x.plain(NUM);
-        w.strs = x.plain(STRS);
-        due("List under Seq", 1, x.parent(LIST, w.seq(x.parameter(LIST, 0))));
-        due("Map under Seq", 1, x.parent(MAP, w.seq(x.parameter(MAP, 0))));
-        due("Sub under Str", 1, x.parent(SUBSTR, w.str));
-        due("Strs under List<Str>", 1, x.parent(STRS, w.list(w.str)));
-        w.renew();
-        return w;
-    }
-
-    /** Clears, and makes the variables a, b, c anew. */
-    private void renew() {
-        x.clear();
-        a = x.variable();
-        b = x.variable();
-        c = x.variable();
-    }
-
-    private int seq(int t) { return x.of(SEQ, t, 0); }
-    private int list(int t) { return x.of(LIST, t, 0); }
-    private int map(int s, int t) { return x.of(MAP, s, t); }
-    private int any() { return x.wild(0, 0); }
-    private int upTo(int t) { return x.wild(1, t); }
-    private int downTo(int t) { return x.wild(2, t); }
-
-    /** The state that one formula alone leads to. */
-    private void leads(String what, int state, int sort, int s, int t) {
-        renew();
-        due(what + ": told", 0, x.formula(sort, s, t));
-        due(what, state, x.count(5));
-    }
-
-    private void yes(String what, int sort, int s, int t) { leads(what, FINE, sort, s, t); }
-    private void no(String what, int sort, int s, int t) { leads(what, CAME_FALSE, sort, s, t); }
-
-    private void dueBound(String what, int i, int sort, int variable, int type, int from) {
-        due(what + ": sort of bound " + i, sort, x.bound(i, 0));
-        due(what + ": variable of bound " + i, variable, x.bound(i, 1));
-        due(what + ": type of bound " + i, type, x.bound(i, 2));
-        due(what + ": origin of bound " + i, from, x.bound(i, 3));
-    }
-
-    private void dueCounts(String what, int bounds, int state, int made, int at) {
-        due(what + ": bounds", bounds, x.count(4));
-        due(what + ": state", state, x.count(5));
-        due(what + ": made less", made, x.count(6));
-        due(what + ": the formula of the state", at, x.count(7));
-    }
-
+public final class PromiseTest extends World {
     private static void promise1() {
         InferReduce x = new InferReduce();
         int[] counts = {9, 0, 0, 0, 0, 0, 0, NONE};
@@ -231,22 +156,6 @@ public final class PromiseTest {
         due("OUTSIDE is told first", OUTSIDE, x.plain(39));
     }
 
-    /** Makes types till there are so many; classes 6 and 7 are not touched, nor primitives and null. */
-    private static void fill(InferReduce x, int most) {
-        for (int p = 0; p < 6; p++) {
-            int t = x.plain(p);
-            for (int d = 0; d < 19; d++) {
-                t = x.array(t);
-                for (int sort = 1; sort < 3 && x.count(1) < most; sort++) x.wild(sort, t);
-                if (x.count(1) >= most) return;
-            }
-        }
-        int cls = x.declare(1);
-        int from = x.count(1);
-        for (int t = 0; t < from && x.count(1) < most; t++) x.of(cls, t, 0);
-        due("the types that were wanted", most, x.count(1));
-    }
-
     private static void promise5() {
         InferReduce x = new InferReduce();
         int one = x.declare(1), two = x.declare(2), none = x.declare(0);
@@ -393,14 +302,19 @@ public final class PromiseTest {
         formulasContained();
         formulasEqual();
         boundsOfFormulas();
+        boundsInOrder();
         heldTogether();
         heldArguments();
+        heldArgumentsOnly();
+        heldArgumentsFull();
+        heldAfterClear();
+        numberZero();
         formulasDeep();
         formulasFull();
     }
 
     private static void formulasOutside() {
-        PromiseTest w = world();
+        World w = world();
         InferReduce x = w.x;
         int[] wrongSort = {LOW, -1, 4, HIGH};
         for (int s : wrongSort) due("formula of sort " + s, OUTSIDE, x.formula(s, w.str, w.str));
@@ -440,7 +354,7 @@ public final class PromiseTest {
     }
 
     private static void formulasCompatible() {
-        PromiseTest w = world();
+        World w = world();
         InferReduce x = w.x;
         String[] widens = {"1.......", ".11.1111", "..1.1111", "...11111", "....1111", ".....111", "......11", ".......1"};
         for (int s = 0; s < 8; s++) {
@@ -475,7 +389,7 @@ public final class PromiseTest {
     }
 
     private static void formulasSub() {
-        PromiseTest w = world();
+        World w = world();
         InferReduce x = w.x;
         int i = x.primitive(4), nothing = x.nothing();
         w.yes("the same", SUB, i, i);
@@ -531,7 +445,7 @@ public final class PromiseTest {
     }
 
     private static void formulasContained() {
-        PromiseTest w = world();
+        World w = world();
         InferReduce x = w.x;
         int any = w.any(), upStr = w.upTo(w.str), upSub = w.upTo(w.sub), downStr = w.downTo(w.str), downSub = w.downTo(w.sub);
         int upObject = w.upTo(w.object);
@@ -566,12 +480,14 @@ public final class PromiseTest {
     }
 
     private static void formulasEqual() {
-        PromiseTest w = world();
+        World w = world();
         InferReduce x = w.x;
         int i = x.primitive(4), nothing = x.nothing();
         w.yes("the same", EQUAL, w.list(w.a), w.list(w.a));
         due("no bound comes", 0, x.count(4));
         w.no("both proper", EQUAL, w.sub, w.str);
+        w.no("both proper with arguments", EQUAL, w.list(w.sub), w.list(w.str));
+        due("their arguments are not asked", 1, x.count(6));
         w.no("a and null", EQUAL, w.a, nothing);
         w.no("null and a", EQUAL, nothing, w.a);
         w.no("a and int", EQUAL, w.a, i);
@@ -604,7 +520,7 @@ public final class PromiseTest {
     }
 
     private static void boundsOfFormulas() {
-        PromiseTest w = world();
+        World w = world();
         InferReduce x = w.x;
         w.yes("a, b", SUB, w.a, w.b);
         w.dueBound("a, b", 0, BELOW, 0, w.b, 0);
@@ -628,8 +544,41 @@ public final class PromiseTest {
         w.dueCounts("false", 1, CAME_FALSE, 5, 0);
     }
 
+    /** Which of two bounds comes first, where both types are variables. */
+    private static void boundsInOrder() {
+        World w = world();
+        InferReduce x = w.x;
+        int[][] alike = {{w.a, w.b}, {w.list(w.a), w.list(w.b)}, {x.array(w.a), x.array(w.b)}};
+        for (int[] two : alike) {
+            w.yes("a, b EQUAL", EQUAL, two[0], two[1]);
+            w.dueBound("a first", 0, IS, 0, w.b, 0);
+            w.dueBound("then b", 1, IS, 1, w.a, 0);
+            w.yes("b, a EQUAL", EQUAL, two[1], two[0]);
+            w.dueBound("b first", 0, IS, 1, w.a, 0);
+            w.dueBound("then a", 1, IS, 0, w.b, 0);
+            w.yes("a, b CONTAINED", CONTAINED, two[0], two[1]);
+            w.dueBound("a first", 0, IS, 0, w.b, 0);
+            w.dueBound("then b", 1, IS, 1, w.a, 0);
+        }
+        w.yes("a is List<b>", EQUAL, w.a, w.list(w.b));
+        x.formula(EQUAL, w.a, w.list(w.c));
+        w.dueBound("the elder one's is on the left", 2, IS, 1, w.c, 1);
+        w.dueBound("the new one's on the right", 3, IS, 2, w.b, 1);
+        due("in the first order alone", 4, x.count(4));
+        due("told twice, EQUAL of both, and of b and c", 4, x.count(6));
+        w.yes("a in a wildcard up to b", CONTAINED, w.a, w.upTo(w.b));
+        w.dueBound("a below b", 0, BELOW, 0, w.b, 0);
+        w.dueBound("b above a", 1, ABOVE, 1, w.a, 0);
+        w.yes("a in a wildcard down to b", CONTAINED, w.a, w.downTo(w.b));
+        w.dueBound("b below a", 0, BELOW, 1, w.a, 0);
+        w.dueBound("a above b", 1, ABOVE, 0, w.b, 0);
+        w.yes("two arguments", SUB, w.map(w.a, w.b), w.map(w.upTo(w.str), w.downTo(w.num)));
+        w.dueBound("the first argument's", 0, BELOW, 0, w.str, 0);
+        w.dueBound("the second one's", 1, ABOVE, 1, w.num, 0);
+    }
+
     private static void heldTogether() {
-        PromiseTest w = world();
+        World w = world();
         InferReduce x = w.x;
         w.yes("a is List<b>", EQUAL, w.a, w.list(w.b));
         due("a is List<Str>", 1, x.formula(EQUAL, w.a, w.list(w.str)));
@@ -678,7 +627,7 @@ public final class PromiseTest {
     }
 
     private static void heldArguments() {
-        PromiseTest w = world();
+        World w = world();
         InferReduce x = w.x;
         w.yes("a below Seq<b>", SUB, w.a, w.seq(w.b));
         x.formula(SUB, w.a, w.list(w.str));
@@ -702,6 +651,130 @@ public final class PromiseTest {
         w.yes("a below RAW Seq", SUB, w.a, x.plain(SEQ));
         x.formula(SUB, w.a, w.list(w.b));
         w.dueCounts("RAW is not asked", 2, FINE, 2, NONE);
+    }
+
+    /** Arguments are held against one another for two bounds BELOW alone; a false one ends it. */
+    private static void heldArgumentsOnly() {
+        World w = world();
+        InferReduce x = w.x;
+        w.yes("a below Seq<Str>", SUB, w.a, w.seq(w.str));
+        x.formula(SUB, w.list(w.str), w.a);
+        w.dueCounts("above and below: SUB, CONTAINED, EQUAL", 2, FINE, 5, NONE);
+        w.yes("a is List<Str>", EQUAL, w.a, w.list(w.str));
+        x.formula(SUB, w.a, w.seq(w.str));
+        w.dueCounts("is and below: SUB, CONTAINED, EQUAL", 2, FINE, 5, NONE);
+        w.yes("a above List<Str>", SUB, w.list(w.str), w.a);
+        x.formula(SUB, w.seq(w.num), w.a);
+        w.dueCounts("above and above: nothing", 2, FINE, 2, NONE);
+        w.yes("a below List<Str>", SUB, w.a, w.list(w.str));
+        x.formula(SUB, w.b, w.list(w.num));
+        w.dueCounts("of two variables: nothing", 2, FINE, 2, NONE);
+        w.yes("a below Map<?, b>", SUB, w.a, w.map(w.any(), w.b));
+        x.formula(SUB, w.a, w.map(w.str, w.num));
+        w.dueCounts("as Seq there is a capture, which is no wildcard, and not Str", 2, CAME_FALSE, 3, 1);
+        w.yes("a below Map<Str, b>", SUB, w.a, w.map(w.str, w.b));
+        x.formula(SUB, w.a, w.map(w.num, w.str));
+        // as Seq: Str, Num, which is false
+        w.dueCounts("the first false one ends it", 2, CAME_FALSE, 3, 1);
+        int both = x.declare(2), one = x.declare(1), other = x.declare(1), first = x.declare(1), second = x.declare(1);
+        x.parent(first, x.of(one, x.parameter(first, 0), 0));
+        x.parent(first, x.of(other, x.parameter(first, 0), 0));
+        x.parent(second, x.of(other, x.parameter(second, 0), 0));
+        w.yes("a below First<b>", SUB, w.a, x.of(first, w.b, 0));
+        x.formula(SUB, w.a, x.of(second, w.str, 0));
+        w.dueBound("a class of one alone is passed over", 2, IS, 1, w.str, 1);
+        w.yes("a below Pair<?, b>", SUB, w.a, x.of(both, w.any(), w.b));
+        x.formula(SUB, w.a, x.of(both, w.str, w.num));
+        w.dueBound("the second ones, though the first is a wildcard", 2, IS, 1, w.num, 1);
+        w.yes("a below Pair<Str, b>", SUB, w.a, x.of(both, w.str, w.b));
+        x.formula(SUB, w.a, x.of(both, w.num, w.str));
+        w.dueCounts("a false first argument: the second is not asked", 2, CAME_FALSE, 3, 1);
+        InferReduce y = new InferReduce();
+        int s = y.declare(0), g = y.declare(1), h = y.declare(1), low = y.declare(1), a = y.variable(), str = y.plain(s);
+        y.parent(low, y.of(g, y.parameter(low, 0), 0));
+        y.parent(low, y.of(h, y.parameter(low, 0), 0));
+        int left = y.of(low, str, 0), right = y.of(low, y.plain(8), 0), before = y.count(1);
+        y.formula(SUB, a, left);
+        due("no type is made for one", before, y.count(1));
+        y.formula(SUB, a, right);
+        due("it is false as the first class", CAME_FALSE, y.count(5));
+        due("types are made for that one alone, none for classes without parameters", before + 2, y.count(1));
+        dueType(y, "the elder one's", before, 1, g, str);
+        dueType(y, "the new one's", before + 1, 1, g, y.plain(8));
+    }
+
+    private static void heldArgumentsFull() {
+        for (int room = 0; room < 3; room++) {
+            InferReduce x = new InferReduce();
+            int g = x.declare(1), h = x.declare(1), a = x.variable(), b = x.variable();
+            x.parent(h, x.of(g, x.parameter(h, 0), 0));
+            int left = x.of(h, x.plain(6), 0), right = x.of(h, b, 0);
+            fill(x, 500 - room);
+            x.formula(SUB, a, left);
+            due("one alone needs no type", FINE, x.count(5));
+            x.formula(SUB, a, right);
+            due("two with room for " + room, room < 2 ? CAME_FULL : FINE, x.count(5));
+            due("at the second", room < 2 ? 1 : NONE, x.count(7));
+            due("all room is taken", 500, x.count(1));
+            due("what came of it", room < 2 ? NONE : x.plain(6), x.instance(1));
+            due("bounds", room < 2 ? 2 : 3, x.count(4));
+        }
+    }
+
+    /** What was put in place of a variable is forgotten with it. */
+    private static void heldAfterClear() {
+        World w = world();
+        InferReduce x = w.x;
+        w.yes("c below List<a>", SUB, w.c, w.list(w.a));
+        x.formula(EQUAL, w.a, w.str);
+        w.dueBound("a is put in", 2, BELOW, 2, w.list(w.str), 1);
+        w.yes("c below Map<a, b>", SUB, w.c, w.map(w.a, w.b));
+        x.formula(EQUAL, w.b, w.num);
+        w.dueBound("b alone is put in", 2, BELOW, 2, w.map(w.a, w.num), 1);
+        due("a is left", 0, x.judge(0));
+        w.yes("a, a", SUB, w.list(w.a), w.list(w.a));
+        due("a is left there, too", 0, x.judge(0));
+    }
+
+    /** The type with the number 0, wherever a type can be. */
+    private static void numberZero() {
+        InferReduce x = new InferReduce();
+        int top = x.declare(0), low = x.declare(0), lower = x.declare(0), g = x.declare(1), h = x.declare(1);
+        due("it is the first type", 0, x.plain(top));
+        dueType(x, "the first type", 0, 0, top, NONE, NONE, 1, 1);
+        due("as a parent", 1, x.parent(low, 0));
+        due("as a parent's parent", 1, x.parent(lower, x.plain(low)));
+        x.parent(h, x.of(g, x.parameter(h, 0), 0));
+        due("above", 0, x.above(x.plain(low), top));
+        due("above through two", 0, x.above(x.plain(lower), top));
+        due("above itself", 0, x.above(0, top));
+        int a = x.variable(), listed = x.of(g, 0, 0), array = x.array(0);
+        due("as an argument", 0, x.type(listed, 2));
+        due("as an array's", 0, x.type(array, 1));
+        due("above, as an argument", listed, x.above(x.of(h, 0, 0), g));
+        int free = x.type(x.above(x.of(h, x.wild(2, 0), 0), g), 2), held = x.type(x.above(x.of(h, x.wild(1, 0), 0), g), 2);
+        int[][] subs = {{x.plain(lower), 0}, {x.plain(low), free}, {held, 0}, {x.array(x.plain(low)), array}, {0, x.plain(0)}};
+        for (int[] two : subs) {
+            x.clear();
+            x.formula(SUB, two[0], two[1]);
+            due("SUB of or with it", FINE, x.count(5));
+        }
+        x.clear();
+        x.variable();
+        x.formula(SUB, listed, x.of(g, a, 0));
+        due("bound to it", 0, x.instance(0));
+        due("judged with it", 1, x.judge(0));
+        x.clear();
+        x.variable();
+        x.formula(SUB, 0, a);
+        due("resolved", 1, x.resolve());
+        due("joined to it", 0, x.instance(0));
+        x.clear();
+        x.variable();
+        x.formula(SUB, a, 0);
+        x.formula(SUB, a, x.plain(0));
+        due("resolved", 1, x.resolve());
+        due("the lowest", 0, x.instance(0));
     }
 
     /** Each class is under one that holds a class two before it, so that formulas come within one another, 60 deep and no more. */
@@ -769,7 +842,21 @@ public final class PromiseTest {
         z.formula(EQUAL, c, deep);
         due("too deep a type", CAME_FULL, z.count(5));
         due("the bound stays", 2, z.count(4));
+        compatibleFull();
         twentyThousand();
+    }
+
+    private static void compatibleFull() {
+        InferReduce x = new InferReduce();
+        int g = x.declare(1), h = x.declare(1);
+        x.parent(h, x.of(g, x.parameter(h, 0), 0));
+        int s = x.of(h, x.plain(6), 0), t = x.of(g, x.plain(0), 0);
+        fill(x, 500);
+        x.formula(COMPATIBLE, s, t);
+        due("no room for what is above", CAME_FULL, x.count(5));
+        due("SUB is not asked then", 1, x.count(6));
+        due("nor is it unchecked", 0, x.unchecked(0));
+        due("judged", FULL, x.judge(0));
     }
 
     private static void twentyThousand() {
@@ -793,7 +880,7 @@ public final class PromiseTest {
     }
 
     private static void promise13() {
-        PromiseTest w = world();
+        World w = world();
         InferReduce x = w.x;
         x.clear();
         due("no variables", 0, x.resolve());
@@ -806,19 +893,15 @@ public final class PromiseTest {
         joins(w);
         joinsFull();
         lowest(w);
+        lowestFull();
+        falseEndsChoosing(w);
         groups(w);
+        longGroups(w);
         w.no("false", SUB, w.str, w.num);
         due("in state 1", NONE, x.resolve());
     }
 
-    private void dueJoin(String what, int want, int... types) {
-        renew();
-        for (int t : types) x.formula(SUB, t, a);
-        due(what + ": resolved", 3, x.resolve());
-        due(what, want, x.instance(0));
-    }
-
-    private static void joins(PromiseTest w) {
+    private static void joins(World w) {
         InferReduce x = w.x;
         int free = w.seq(w.any());
         w.dueJoin("one alone", w.sub, w.sub);
@@ -871,7 +954,7 @@ public final class PromiseTest {
         due("an instance", 12, y.instance(11));
     }
 
-    private static void lowest(PromiseTest w) {
+    private static void lowest(World w) {
         InferReduce x = w.x;
         w.yes("a below Str", SUB, w.a, w.str);
         due("resolved", 3, x.resolve());
@@ -897,7 +980,66 @@ public final class PromiseTest {
         due("state", CAME_FALSE, x.count(5));
     }
 
-    private static void groups(PromiseTest w) {
+    /** A type that is only needed to see which one is the lowest. */
+    private static void lowestFull() {
+        for (int room = 0; room < 2; room++) {
+            InferReduce x = new InferReduce();
+            int top = x.declare(0), mid = x.declare(1), low = x.declare(1), a = x.variable();
+            x.parent(mid, x.plain(top));
+            x.parent(low, x.of(mid, x.parameter(low, 0), 0));
+            int high = x.plain(top), t = x.of(low, x.plain(6), 0);
+            fill(x, 500 - room);
+            x.formula(SUB, a, high);
+            x.formula(SUB, a, t);
+            due("told", FINE, x.count(5));
+            due("the lowest with room for " + room, room < 1 ? NONE : 1, x.resolve());
+            due("state", room < 1 ? CAME_FULL : FINE, x.count(5));
+            due("as it was resolved", NONE, x.count(7));
+            due("instance", room < 1 ? NONE : t, x.instance(0));
+        }
+    }
+
+    /** Where there is nothing to choose for one, others of its group are not chosen for. */
+    private static void falseEndsChoosing(World w) {
+        InferReduce x = w.x;
+        w.yes("a below Str", SUB, w.a, w.str);
+        x.formula(SUB, w.a, w.num);
+        x.formula(SUB, w.a, w.list(w.b));
+        x.formula(SUB, w.sub, w.b);
+        x.formula(SUB, w.str, w.b);
+        x.formula(EQUAL, w.c, w.str);
+        int before = x.count(6), types = x.count(1);
+        due("nothing for a", NONE, x.resolve());
+        due("two formulas for a, none for b", before + 2, x.count(6));
+        due("no type", types, x.count(1));
+        due("false", CAME_FALSE, x.count(5));
+        due("b is not settled", NONE, x.instance(1));
+    }
+
+    /** Twelve that depend on one another in a row, the way back being the longer one. */
+    private static void longGroups(World w) {
+        for (int way = 0; way < 2; way++) {
+            InferReduce x = new InferReduce();
+            int g = x.declare(1), o = x.plain(0);
+            int[] v = new int[12];
+            for (int i = 0; i < 12; i++) v[i] = x.variable();
+            for (int i = 0; i < 11; i++) x.formula(SUB, x.of(g, v[way == 0 ? i : i + 1], 0), v[way == 0 ? i + 1 : i]);
+            int before = x.count(4);
+            x.resolve();
+            due("the least of all twelve goes first", 0, x.bound(before, 1));
+            due("as OBJECT", o, x.bound(before, 2));
+        }
+        InferReduce x = w.x;
+        w.yes("a is Str", EQUAL, w.a, w.str);
+        x.formula(SUB, w.list(w.c), w.b);
+        x.variable();
+        int before = x.count(4);
+        due("b and c are one group, behind the settled one", 4, x.resolve());
+        due("the fourth goes first", 3, x.bound(before, 1));
+        due("then b", 1, x.bound(before + 1, 1));
+    }
+
+    private static void groups(World w) {
         InferReduce x = w.x;
         w.yes("a below b", SUB, w.a, w.b);
         due("resolved", 3, x.resolve());
@@ -956,7 +1098,7 @@ public final class PromiseTest {
     }
 
     private static void promise14() {
-        PromiseTest w = world();
+        World w = world();
         InferReduce x = w.x;
         due("nothing told", 0, x.clear());
         w.renew();
@@ -981,7 +1123,7 @@ public final class PromiseTest {
     }
 
     private static void promise15() {
-        PromiseTest w = world();
+        World w = world();
         InferReduce x = w.x;
         int[] wrong = {LOW, -1, 8, HIGH};
         for (int what : wrong) due("count " + what, OUTSIDE, x.count(what));
@@ -1005,12 +1147,8 @@ public final class PromiseTest {
         due("it is told", 3, x.count(3));
     }
 
-    private static void dueType(InferReduce x, String what, int t, int... want) {
-        for (int i = 0; i < want.length; i++) due(what + ": type(" + t + ", " + i + ")", want[i], x.type(t, i));
-    }
-
     private static void promise16() {
-        PromiseTest w = world();
+        World w = world();
         InferReduce x = w.x;
         int listA = w.list(w.a), map = w.map(listA, w.str), up = w.upTo(listA), arrayOfInt = x.array(x.primitive(4));
         dueType(x, "plain", w.str, 0, STR, NONE, NONE, 1, 1);
@@ -1037,7 +1175,7 @@ public final class PromiseTest {
     }
 
     private static void promise17() {
-        PromiseTest w = world();
+        World w = world();
         InferReduce x = w.x;
         due("no bound", OUTSIDE, x.bound(0, 0));
         x.formula(SUB, w.str, w.str);
@@ -1058,7 +1196,7 @@ public final class PromiseTest {
     }
 
     private static void promise18() {
-        PromiseTest w = world();
+        World w = world();
         InferReduce x = w.x;
         int[] wrong = {LOW, -1, 3, 12, HIGH};
         for (int v : wrong) due("instance " + v, OUTSIDE, x.instance(v));
@@ -1076,7 +1214,7 @@ public final class PromiseTest {
     }
 
     private static void promise19() {
-        PromiseTest w = world();
+        World w = world();
         InferReduce x = w.x;
         int any = w.any(), listStr = w.list(w.str);
         due("no type", OUTSIDE, x.above(-1, 0));
@@ -1110,7 +1248,24 @@ public final class PromiseTest {
         due("nor its box", NONE, x.above(x.primitive(4), 5));
         due("no class of a variable", NONE, x.above(w.a, STR));
         aboveOrder();
+        aboveWithoutParents();
         aboveFull();
+    }
+
+    /** Classes of an object in which no parent was told. */
+    private static void aboveWithoutParents() {
+        InferReduce x = new InferReduce();
+        int plain = x.declare(0), one = x.declare(1), o = x.plain(0);
+        int[] types = {x.plain(plain), x.plain(one), x.of(one, o, 0), x.of(one, x.wild(0, 0), 0), x.plain(4)};
+        for (int t : types) {
+            int before = x.count(1);
+            due("itself", t, x.above(t, x.type(t, 1)));
+            due("OBJECT", o, x.above(t, 0));
+            for (int c = 1; c <= one; c++) if (c != x.type(t, 1)) due("not as " + c, NONE, x.above(t, c));
+            due("no type is made", before, x.count(1));
+        }
+        x.formula(SUB, x.of(one, o, 0), x.plain(one));
+        due("RAW is above it", FINE, x.count(5));
     }
 
     private static void aboveOrder() {
@@ -1158,7 +1313,7 @@ public final class PromiseTest {
     }
 
     private static void promise20() {
-        PromiseTest w = world();
+        World w = world();
         InferReduce x = w.x;
         due("none told", OUTSIDE, x.unchecked(0));
         x.formula(COMPATIBLE, x.plain(LIST), w.list(w.str));
@@ -1181,7 +1336,7 @@ public final class PromiseTest {
     }
 
     private static void promise21() {
-        PromiseTest w = world();
+        World w = world();
         InferReduce x = w.x;
         due("none told", OUTSIDE, x.judge(0));
         x.formula(SUB, w.sub, w.a);
@@ -1214,7 +1369,33 @@ public final class PromiseTest {
         int types = x.count(1);
         due("List<Sub>, Seq<Sub>", 1, x.judge(0));
         due("both types were made for it, and stay", types + 2, x.count(1));
+        judgeSorts();
         judgeFull();
+    }
+
+    /** A formula is judged as one of the sort as which it was told. */
+    private static void judgeSorts() {
+        World w = world();
+        InferReduce x = w.x;
+        // COMPATIBLE, SUB, CONTAINED, EQUAL of each two
+        int[][] pairs = {{w.sub, w.str}, {w.str, w.str}, {x.plain(LIST), w.list(w.str)}, {x.primitive(4), x.plain(5)},
+            {w.str, w.sub}, {x.nothing(), w.str}, {x.primitive(1), x.primitive(5)}};
+        int[][] want = {{1, 1, 0, 0}, {1, 1, 1, 1}, {2, 0, 0, 0}, {1, 0, 0, 0}, {0, 0, 0, 0}, {1, 1, 0, 0}, {1, 0, 0, 0}};
+        for (int i = 0; i < pairs.length; i++) {
+            for (int sort = 0; sort < 4; sort++) {
+                w.renew();
+                due("told", 0, x.formula(sort, pairs[i][0], pairs[i][1]));
+                due("pair " + i + " judged as of sort " + sort, want[i][sort], x.judge(0));
+                due("it is in the state, too", want[i][sort] > 0 ? FINE : CAME_FALSE, x.count(5));
+                due("unchecked", want[i][sort] == 2 ? 1 : 0, x.unchecked(0));
+            }
+        }
+        w.yes("a wildcard is judged, too", CONTAINED, w.upTo(w.a), w.upTo(w.str));
+        due("not settled", 0, x.judge(0));
+        x.formula(EQUAL, w.a, w.sub);
+        due("up to Sub in up to Str", 1, x.judge(0));
+        w.no("a wildcard in no wildcard", CONTAINED, w.any(), w.object);
+        due("judged", 0, x.judge(0));
     }
 
     private static void judgeFull() {
