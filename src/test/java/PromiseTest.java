@@ -798,6 +798,36 @@ public final class PromiseTest extends World {
         due("at the second", 1, x.count(7));
         due("61 judged", FULL, x.judge(1));
         due("judging leaves the state", CAME_FULL, x.count(5));
+        int left = x.array(s), right = x.array(t);
+        for (int deep = 60; deep < 62; deep++) {
+            deepHeld(x, deep, left, right);
+            deepChosen(x, deep, left, right);
+            left = x.array(left);
+            right = x.array(right);
+        }
+    }
+
+    /** Types whose SUB is so many formulas within one another come together in the bounds of one variable. */
+    private static void deepHeld(InferReduce x, int deep, int left, int right) {
+        x.clear();
+        int a = x.variable();
+        x.formula(SUB, left, a);
+        x.formula(SUB, a, right);
+        due(deep + " within one another, held", deep <= 60 ? FINE : CAME_FULL, x.count(5));
+        due("made less", 2 + 60, x.count(6));
+        due("at the second", deep <= 60 ? NONE : 1, x.count(7));
+    }
+
+    private static void deepChosen(InferReduce x, int deep, int left, int right) {
+        x.clear();
+        int a = x.variable();
+        x.formula(SUB, left, a);
+        x.formula(SUB, right, a);
+        due("they do not come together as they are told", FINE, x.count(5));
+        due(deep + " within one another, chosen for", deep <= 60 ? 1 : NONE, x.resolve());
+        due("state", deep <= 60 ? FINE : CAME_FULL, x.count(5));
+        due("as it was resolved", NONE, x.count(7));
+        due("the upper one", deep <= 60 ? right : NONE, x.instance(0));
     }
 
     private static void formulasFull() {
@@ -892,6 +922,7 @@ public final class PromiseTest extends World {
         w.dueCounts("nothing is done", 3, FINE, 3, NONE);
         joins(w);
         joinsFull();
+        joinsFullOfClasses();
         lowest(w);
         lowestFull();
         falseEndsChoosing(w);
@@ -978,6 +1009,33 @@ public final class PromiseTest extends World {
         x.formula(SUB, w.a, w.object);
         due("no proper one but OBJECT: it is not below List<b>", NONE, x.resolve());
         due("state", CAME_FALSE, x.count(5));
+    }
+
+    /** Where what the join comes to is there already, the classes' types of kind 0 need room all the same. */
+    private static void joinsFullOfClasses() {
+        for (int room = 0; room < 2; room++) {
+            InferReduce x = new InferReduce();
+            int g = x.declare(1), h = x.declare(1), k = x.declare(1), a = x.variable(), six = x.plain(6);
+            x.parent(h, x.of(g, x.parameter(h, 0), 0));
+            x.parent(k, x.of(g, x.parameter(k, 0), 0));
+            int s = x.of(h, six, 0), t = x.of(k, six, 0), join = x.of(g, six, 0);
+            fill(x, 500 - room);
+            x.formula(SUB, s, a);
+            x.formula(SUB, t, a);
+            due("a join with room for " + room, room < 1 ? NONE : 1, x.resolve());
+            due("its state", room < 1 ? CAME_FULL : FINE, x.count(5));
+            due("its instance", room < 1 ? NONE : join, x.instance(0));
+        }
+        World w = world();
+        InferReduce x = w.x;
+        int deep = w.num;
+        for (int d = 1; d < 18; d++) deep = x.array(deep);
+        x.formula(SUB, w.list(w.upTo(deep)), w.a);
+        x.formula(SUB, w.str, w.a);
+        int types = x.count(1);
+        due("what is above is too deep", NONE, x.resolve());
+        due("its state", CAME_FULL, x.count(5));
+        due("no type came of it", types, x.count(1));
     }
 
     /** A type that is only needed to see which one is the lowest. */
@@ -1249,6 +1307,7 @@ public final class PromiseTest extends World {
         due("no class of a variable", NONE, x.above(w.a, STR));
         aboveOrder();
         aboveWithoutParents();
+        aboveOneNumber();
         aboveFull();
     }
 
@@ -1293,6 +1352,17 @@ public final class PromiseTest extends World {
         due("a parent of a parent that came later", 1, x.parent(side, x.of(top, x.parameter(side, 0), 0)));
         due("is above too", x.of(top, s, 0), x.above(x.plain(late), top));
         due("and comes by the first parent now", x.of(top, s, 0), x.above(both, top));
+    }
+
+    /** Types and classes have numbers of their own: here a type has that of the class above which it is looked for. */
+    private static void aboveOneNumber() {
+        InferReduce x = new InferReduce();
+        int g = x.declare(1), h = x.declare(1);
+        for (int c = 0; c < 9; c++) x.plain(c);
+        int lone = x.plain(g), own = x.parameter(h, 0), array = x.array(own);
+        due("the type and the class", h, own);
+        x.parent(h, x.of(g, x.array(array), 0));
+        due("its own parameter in arrays", x.of(g, x.array(x.array(lone)), 0), x.above(x.of(h, lone, 0), g));
     }
 
     private static void aboveFull() {

@@ -23,7 +23,7 @@ public final class RandomRunsTest {
     // few classes and many variables make formulas that are true, and many bounds
     private final boolean narrow;
     private final int leaning;
-    static final int[] seen = new int[16];
+    static final int[] seen = new int[17];
 
     private RandomRunsTest(long seed) {
         random = new Random(seed);
@@ -318,8 +318,73 @@ public final class RandomRunsTest {
         return same;
     }
 
+    /** Four bounds a formula, till there are nearly as many as there may be. */
+    private boolean tellManyBounds() {
+        int two = made("declare", 2), most = any(150, 205), sort = random.nextInt(5) == 0 ? 2 : 1;
+        while (model.variables < 12 && made("variable") >= 0) { }
+        if (two < 0 || model.variables < 12) return true;
+        int[] right = new int[3], left = new int[20];
+        for (int q = 0; q < right.length; q++) {
+            int[] pairs = new int[2];
+            for (int i = 0; i < 2; i++) {
+                int first = model.variableType(4 * q + 2 * i), second = model.variableType(4 * q + 2 * i + 1);
+                pairs[i] = made("of", two, made("wild", sort, first), made("wild", sort, second));
+            }
+            right[q] = made("of", two, made("wild", 1, pairs[0]), made("wild", 1, pairs[1]));
+        }
+        for (int k = 0; k < left.length; k++) {
+            int t = random.nextInt(40) == 0 ? aVariable() : build(random.nextInt(3), model.params.size(), NONE, false);
+            for (int d = k % 4; d > 0; d--) t = made("array", t);
+            int pair = made("of", two, t, random.nextInt(5) == 0 ? made("array", t) : t);
+            left[k] = made("of", two, pair, pair);
+        }
+        for (int n = 0; n < 59 && model.state == 0 && model.bounds.size() < most; n++) {
+            if (!call("formula", 1, left[n % left.length], right[n / left.length % right.length]) || !sameCounts()) return false;
+        }
+        if (model.bounds.size() == 200) seen[9]++;
+        if (model.bounds.size() > 180) seen[16]++;
+        return call("resolve") && sameRows() && call("clear");
+    }
+
+    /** Two trees that come to nearly as many formulas as one call may make less. */
+    private boolean tellManyFormulas() {
+        int two = made("declare", 2), s = made("variable"), t = random.nextBoolean() ? made("variable") : made("plain", 1);
+        if (two < 0 || s < 0 || t < 0) return true;
+        if (random.nextBoolean() && !call("formula", 3, s, made("plain", 1))) return false;
+        for (int d = any(12, 15); d > 0; d--) {
+            s = random.nextInt(9) == 0 ? made("of", two, made("array", s), s) : made("of", two, s, s);
+            t = random.nextInt(99) == 0 ? made("of", two, t, made("array", t)) : s == model.types.size() - 1 && model.kind(model.b(s)) == 4
+                ? made("of", two, made("array", t), t) : made("of", two, t, t);
+        }
+        if (!call("formula", 3, s, t) || !sameCounts()) return false;
+        if (model.inCall == 20000) seen[10]++;
+        return call("resolve") && sameRows() && call("clear");
+    }
+
+    /** Variables that are captures, of types in which there are variables, too. */
+    private boolean tellCaptures() {
+        int g = made("declare", 1), h = made("declare", 1 + random.nextInt(2));
+        if (h < 0) return true;
+        int own = made("parameter", h, random.nextInt(model.params.get(h)));
+        made("parent", h, made("of", g, random.nextInt(4) == 0 ? made("array", own) : own, 0));
+        while (model.variables < any(2, 5) && made("variable") >= 0) { }
+        for (int n = any(1, 6); n > 0 && model.variables > 0 && model.state == 0; n--) {
+            int bound = random.nextInt(3) == 0 ? build(1, model.params.size(), NONE, true) : aVariable();
+            int s = made("of", h, made("wild", any(0, 2), bound), random.nextBoolean() ? aVariable() : made("wild", any(0, 2), aVariable()));
+            int t = random.nextInt(3) == 0 ? made("wild", any(1, 2), aVariable()) : aVariable();
+            boolean same = random.nextInt(3) == 0 ? call("formula", any(0, 3), aVariable(), higher(s, true)) : call("formula", any(0, 1), s, made("of", g, t, 0));
+            if (!same || !sameCounts()) return false;
+            if (random.nextInt(3) == 0 && (!call("formula", any(1, 3), aVariable(), build(1, model.params.size(), NONE, false)) || !sameCounts())) return false;
+        }
+        for (Model.B b : model.bounds) if (model.kind(b.t()) == 8) seen[12]++;
+        return call("resolve") && sameRows() && call("clear");
+    }
+
     private boolean guidedRun() {
         tellClasses();
+        if (random.nextInt(12) == 0 && !tellCaptures()) return false;
+        if (random.nextInt(60) == 0 && !tellManyBounds()) return false;
+        if (random.nextInt(60) == 0 && !tellManyFormulas()) return false;
         if (random.nextInt(3) == 0) tellChain();
         if (random.nextInt(8) == 0) fill();
         for (int round = any(1, 6); round > 0; round--) {
@@ -387,7 +452,7 @@ public final class RandomRunsTest {
             if (!same) break;
         }
         System.out.println("formulas false " + seen[0] + ", full " + seen[1] + "; resolved " + seen[2] + ", false " + seen[3]
-            + ", full " + seen[4] + "; unchecked " + seen[5] + "; long " + seen[6] + "; 500 types " + seen[7] + "; captures " + seen[8] + "; 200 bounds " + seen[9]
+            + ", full " + seen[4] + "; unchecked " + seen[5] + "; long " + seen[6] + "; 500 types " + seen[7] + "; captures " + seen[8] + "; 200 bounds " + seen[9] + ", over 180 " + seen[16]
             + "; 20000 formulas " + seen[10] + "; captures of variables " + seen[11] + ", in bounds " + seen[12]
             + "; wildcards in bounds " + seen[13] + "; formulas too deep " + seen[14] + "; captures for parents " + seen[15]);
         Check.end();
