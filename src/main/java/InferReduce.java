@@ -224,8 +224,8 @@ public final class InferReduce {
             int instance = bounds.settledAs(v, types);
             if (instance >= 0) exchange.setInstead(v, instance);
         }
-        int s = exchange.put(told.leftOf(i));
-        int t = s < 0 ? FULL : exchange.put(told.rightOf(i));
+        int s = exchange.put(told.leftOf(i), 1);
+        int t = s < 0 ? FULL : exchange.put(told.rightOf(i), 1);
         if (s < 0 || t < 0) return FULL;
         if (!types.isProper(s) || !types.isProper(t)) return 0;
         int madeBefore = reducer.made;
@@ -506,10 +506,11 @@ public final class InferReduce {
         }
 
         /** The type t with all in place; FULL. Types are at most 20 deep, and so are these calls. */
-        int put(int t) {
+        int put(int t, int level) {
             if (t < 0 || t >= MOST_TYPES) return t;
             boolean touched = owner < 0 ? (types.variablesIn(t) & variables) != 0 : types.ownersIn(t, NONE) != 0;
             if (!touched) return t;
+            if (level > MOST_DEPTH) return FULL;
             if (doneAt[t] == stamp) return done[t];
             int kind = types.kindOf(t), a = types.firstOf(t), b = types.secondOf(t), c = types.thirdOf(t);
             int answer = t;
@@ -519,11 +520,11 @@ public final class InferReduce {
                 answer = types.argumentOf(owner, b);
                 if (types.kindOf(answer) == WILD) answer = types.make(CAPTURE, owner, b, NONE);
             } else if (kind == ARRAY || kind == CAPTURE) {
-                int part = put(a);
+                int part = put(a, level + 1);
                 answer = part == FULL ? FULL : types.make(kind, part, b, NONE);
             } else if (kind == WILD || kind == ARGUED) {
-                int left = put(b);
-                int right = left == FULL ? FULL : put(c);
+                int left = put(b, level + 1);
+                int right = left == FULL ? FULL : put(c, level + 1);
                 answer = right == FULL ? FULL : types.make(kind, a, left, right);
             }
             done[t] = answer;
@@ -850,7 +851,7 @@ public final class InferReduce {
                 int parent = classes.parentTowards(c, g);
                 if (types.kindOf(at) == ARGUED) {
                     exchange.forArguments(at);
-                    at = exchange.put(parent);
+                    at = exchange.put(parent, 1);
                 } else if (classes.parametersOf(c) > 0) {
                     at = types.make(BARE, types.firstOf(parent), NONE, NONE);
                 } else {
@@ -918,7 +919,7 @@ public final class InferReduce {
             if (y < 0 || y >= MOST_VARIABLES || (types.variablesIn(v) >> x & 1) == 0) return TRUE;
             exchange.forVariables();
             exchange.setInstead(x, u);
-            int w = exchange.put(v);
+            int w = exchange.put(v, 1);
             switch (bounds.sortOf(q)) {
                 case IS: return reducer.ask(EQUAL, variableTypes[y], w);
                 case BELOW: return reducer.ask(SUB, variableTypes[y], w);

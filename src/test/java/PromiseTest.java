@@ -1496,7 +1496,20 @@ public final class PromiseTest extends World {
         due("the left one alone is left", 0, y.judge(0));
     }
 
+    /** The calls that README.md shows, so that it stays true. */
+    private static void asInReadme() {
+        InferReduce x = new InferReduce();
+        int list = x.declare(1);
+        int integer = x.plain(5);
+        int a = x.variable();
+        due("README: told", 0, x.formula(SUB, x.of(list, integer, 0), x.of(list, a, 0)));
+        due("README: settled", 1, x.resolve());
+        due("README: its type", integer, x.instance(0));
+        due("README: judged", 1, x.judge(0));
+    }
+
     public static void main(String[] args) {
+        asInReadme();
         promise1();
         promise2();
         promise3();
