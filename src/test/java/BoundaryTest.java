@@ -320,6 +320,63 @@ public final class BoundaryTest extends World {
         }
     }
 
+    /** A type 20 deep around another one that is 1 deep: arrays, classes on the left, on the right, wildcards. */
+    private static int around(World w, int way, int inner) {
+        int t = inner;
+        for (int d = 2; d <= 20; d++) {
+            switch (way) {
+                case 0: t = w.x.array(t); break;
+                case 1: t = w.list(t); break;
+                case 2: t = w.map(t, w.str); break;
+                case 3: t = w.map(w.str, t); break;
+                default: t = w.x.type(t, 0) != 2 && d < 20 ? w.upTo(t) : w.seq(t); break;
+            }
+        }
+        due("20 deep", 20, w.x.type(t, 4));
+        return t;
+    }
+
+    // a variable at the last place that a type has: what is 1 deep fits there, what is 2 deep does not
+    private static void twentyDeepLast() {
+        for (int way = 0; way < 5; way++) {
+            World w = world();
+            InferReduce x = w.x;
+            int deep = around(w, way, w.a), due = around(w, way, w.num), before = x.count(1);
+            x.formula(SUB, deep, w.b);
+            x.formula(EQUAL, w.a, w.num);
+            w.dueCounts("1 deep in place", 3, FINE, 3, NONE);
+            w.dueBound("1 deep in place", 2, ABOVE, 1, due, 1);
+            x.formula(EQUAL, w.b, due);
+            due("judged with it", 1, x.judge(0));
+            due("no type is made", before, x.count(1));
+            w.renew();
+            x.formula(SUB, deep, w.b);
+            x.formula(EQUAL, w.a, x.array(w.num));
+            due("2 deep in place", CAME_FULL, x.count(5));
+            due("nor judged", FULL, x.judge(0));
+        }
+    }
+
+    // the same of a parameter in a parent
+    private static void twentyDeepParent() {
+        for (int way = 0; way < 4; way++) {
+            World w = world();
+            InferReduce x = w.x;
+            int cls = x.declare(1), parent = way == 0 ? NONE : around(w, way, x.parameter(cls, 0));
+            if (way == 0) {
+                int t = x.parameter(cls, 0);
+                for (int d = 2; d <= 19; d++) t = x.array(t);
+                parent = w.seq(t);
+            }
+            due("a parent that is 20 deep", 1, x.parent(cls, parent));
+            int above = x.above(x.of(cls, w.num, 0), x.type(parent, 1));
+            due("above it, 20 deep", 20, x.type(above, 4));
+            if (way > 0) due("with the argument in place", around(w, way, w.num), above);
+            int two = x.of(cls, x.array(w.num), 0);
+            due("2 deep has no room there", FULL, x.above(two, x.type(parent, 1)));
+        }
+    }
+
     // "CLASSES 0 .. 39 (at most), with 0 to 2 PARAMETERS"; "FULL (40 classes)"
     private static void fortyClasses() {
         InferReduce x = new InferReduce();
@@ -756,6 +813,8 @@ public final class BoundaryTest extends World {
         twentyDeep();
         twentyDeepAbove();
         twentyDeepPut();
+        twentyDeepLast();
+        twentyDeepParent();
         fortyClasses();
         threeParents();
         twelveVariables();
